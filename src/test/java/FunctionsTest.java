@@ -353,6 +353,11 @@ public final class FunctionsTest {
     due.is("jobs()", x.jobs(), 0);
     due.is("job(0, 1)", x.job(0, 1), 0);
     due.is("stop()", x.stop(), 0);
+    x.number(9, 1);
+    for (int what : new int[] {3, 4, 10, 11}) {
+      due.is("job(0, " + what + ") of a number where a function was", x.job(0, what), 0);
+    }
+    x.stop();
     due.is("told(4)", x.told(4), 0);
     due.is("told(7)", x.told(7), 2);
   }

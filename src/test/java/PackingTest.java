@@ -14,6 +14,8 @@ public final class PackingTest {
     kinds();
     laidAndBits();
     room();
+    most();
+    overOthers();
     forget();
     due.end();
   }
@@ -262,6 +264,65 @@ public final class PackingTest {
     x.border(4096);
     x.number(1, 0);
     due.is("tree(10) below the BORDER, with JOBS", x.tree(10), 2);
+  }
+
+  /** Sixty pieces, all used, a text of 120 signs, and twenty texts. */
+  private static void most() {
+    GlulxStrings x = new GlulxStrings();
+    for (int p = 0; p < 60; p++) {
+      Due.piece(x, 2, 1 + p);
+    }
+    for (int i = 0; i < 120; i++) {
+      x.sign(1 + i % 60);
+    }
+    due.is("a TEXT of 120", x.text(), 0);
+    due.is("laid(0, 2)", x.laid(0, 2), 120);
+    // END 1, sixty of 2. What is made: 3, 29 of 4, 5, 14 of 8, 9, 7 of 16, 25, 3 of 32, 57, 64, 121.
+    due.is("tree(0)", x.tree(0), 3 + 29 * 4 + 5 + 14 * 8 + 9 + 7 * 16 + 25 + 3 * 32 + 57 + 64 + 121);
+    due.is("byteAt(7)", x.byteAt(7), 121);
+    due.is("bits(NONE)", x.bits(Due.NONE), 6);
+    due.is("laid(0, 0)", x.laid(0, 0), 12 + 60 * 9 + 60 * 2 + 1);
+    x.border(4096);
+    due.is("table(1)", x.table(1), 0);
+    x = new GlulxStrings();
+    Due.piece(x, 2, 97);
+    for (int k = 0; k < 20; k++) {
+      Due.text(x, signs(k, 97));
+    }
+    due.is("tree(100) of twenty TEXTS", x.tree(100), 20 + 190);
+    for (int k = 0; k < 20; k++) {
+      due.is("laid(" + k + ", 1)", x.laid(k, 1), k + 1);
+    }
+    due.is("laid(19, 0)", x.laid(19, 0), 124 + 19 + 8 * 1 + 8 * 2 + 3 * 3);
+  }
+
+  /** Two texts over bytes that are not 0, with not one to spare. */
+  private static void overOthers() {
+    GlulxStrings x = new GlulxStrings();
+    int end = 12 + 4 * 9 + 1 + 2 + 2 + 4 + 13;
+    Due.put(x, 100, signs(end + 20, 255));
+    Due.piece(x, 2, 97);
+    Due.piece(x, 2, 98);
+    Due.piece(x, 3, 99, 99);
+    Due.piece(x, 5, 70000, 80000);
+    Due.text(x, 97, 97, 97, 97, 97, 98, 98, 98, 98, 99, 99);
+    Due.text(x, 97, 97, 97, 97, 97, 98, 98, 98, 98, 70000, 80000);
+    // Uses: END 2, a 10, b 8, cc 1, dd 1: cc and dd (2), END and these (4), these and b (12), a and these.
+    due.is("tree(100)", x.tree(100), 10 + 2 * 8 + 3 * 2 + 4 * 2);
+    due.is("bits(NONE)", x.bits(Due.NONE), 3);
+    due.is("bits(0)", x.bits(0), 1);
+    due.is("bits(3)", x.bits(3), 4);
+    bytes(x, "over others", 100, Due.join(Due.four(end, 9, 112), Due.b(0), Due.four(121, 123), Due.b(2, 97),
+        Due.b(0), Due.four(132, 168), Due.b(0), Due.four(141, 142), Due.b(1),
+        Due.b(0), Due.four(151, 155), Due.b(3, 99, 99, 0, 5), Due.four(70000, 80000, 0), Due.b(2, 98)));
+    due.is("laid(0, 0)", x.laid(0, 0), 100 + end);
+    due.is("laid(0, 1)", x.laid(0, 1), 20);
+    due.is("laid(1, 0)", x.laid(1, 0), 100 + end + 4);
+    // a 0, b 11, END 100, cc 1010, dd 1011.
+    bytes(x, "over others", 100 + end, 225, 0b11100000, 0b10111111, 0b0010);
+    bytes(x, "over others", 104 + end, 225, 0b11100000, 0b10111111, 0b0011, 255);
+    due.is("tree up to the end", x.tree(4096 - end - 8), 40);
+    due.is("tree beyond the end", x.tree(4096 - end - 7), Due.FULL);
   }
 
   private static void forget() {

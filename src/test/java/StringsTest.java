@@ -218,6 +218,22 @@ public final class StringsTest {
     x.clear();
     due.is("a node 11 of a string", x.print(500, 9), 1);
     due.out(x, "a node 11 of a string", 33);
+    // None and four arguments, then a node 8 behind them.
+    x = withNode(Due.join(Due.b(10), Due.four(600, 4, 5, 6, 7, 8)));
+    Due.put(x, 500, 225, 1);
+    Due.put(x, 600, 192, 5, 1, 3, 0, 1, 3, 4, 0, 0);
+    due.is("a node 10 of four", x.print(500, 9), 2);
+    due.out(x, "a node 10 of four", 4, 8);
+    Due.put(x, 127, Due.four(0));
+    x.clear();
+    due.is("a node 10 of none", x.print(500, 9), 2);
+    due.out(x, "a node 10 of none", 0, 0);
+    Due.put(x, 127, Due.four(3));
+    x.print(500, 9);
+    Due.put(x, 122, 8);
+    x.clear();
+    due.is("a node 8 behind one of three", x.print(500, 9), 2);
+    due.out(x, "a node 8 behind one of three", 0, 0);
     x = withNode(Due.join(Due.b(8), Due.four(600)));
     Due.put(x, 500, 225, 1);
     Due.put(x, 600, 192, 1, 1, 3, 0, 0, 0);

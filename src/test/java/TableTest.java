@@ -52,6 +52,16 @@ public final class TableTest {
     due.is("table whose ROOT is outside of it", x.table(100), 0);
     Due.put(x, 100, Due.four(12, 0x01000000, 104));
     due.is("table whose ROOT is in its head", x.table(100), 1);
+    x.border(112);
+    due.is("table of 12 bytes up to the BORDER", x.table(100), 1);
+    x.border(111);
+    due.is("table of 12 bytes beyond the BORDER", x.table(100), 0);
+    x.border(4096);
+    // The head as a BRANCH: its FOUR 16 tells a node at 4096 and more, the other is at 0.
+    Due.put(x, 100, Due.four(16, 0, 100));
+    due.is("table whose ROOT is its first byte", x.table(100), 1);
+    Due.put(x, 1, tree(1, 13, 1));
+    due.is("table(1)", x.table(1), 1);
     Due.put(x, 0, Due.four(13, 0, 12, 0x01000000));
     due.is("table(0)", x.table(0), 0);
     due.is("table(4085)", x.table(4085), 0);
@@ -76,6 +86,11 @@ public final class TableTest {
       Due.put(x, 200, Due.join(tree(200, 11 + node.length, node), new int[40]));
       due.is("table of a node " + node[0] + " of " + node.length + " less one", x.table(200), 0);
     }
+    // A 0 ahead of a row is not its end.
+    Due.put(x, 500, Due.join(Due.four(16, 0, 513), Due.b(0, 3, 65, 66, 0)));
+    due.is("table of a row with its end behind the tree", x.table(500), 0);
+    Due.put(x, 500, Due.four(17));
+    due.is("table of a row with its end", x.table(500), 1);
     for (int kind : new int[] {6, 7, 12, 224, 255}) {
       Due.put(x, 200, tree(200, 40, kind));
       due.is("table of a node " + kind, x.table(200), 0);
