@@ -7,6 +7,8 @@ final class Due {
   static final int HELD = GlulxStrings.HELD;
 
   private final String test;
+  private String sentence = "";
+  private int sentences = 0;
   private int asked = 0;
   private int wrong = 0;
 
@@ -17,9 +19,36 @@ final class Due {
   void is(String call, long got, long want) {
     asked++;
     if (got != want) {
-      wrong++;
-      System.out.println(test + ": " + call + " answered " + got + ", due is " + want);
+      tell(call + " answered " + got + ", due is " + want);
     }
+  }
+
+  void same(String call, String got, String want) {
+    asked++;
+    if (!got.equals(want)) {
+      tell(call + " is" + got + ", due is" + want);
+    }
+  }
+
+  private void tell(String fault) {
+    wrong++;
+    System.out.println(test + sentence + ": " + fault);
+  }
+
+  /** A sentence of the document, and the test of its own that it has. */
+  void holds(String told, Runnable body) {
+    int before = asked;
+    sentence = " \"" + told + "\"";
+    sentences++;
+    try {
+      body.run();
+    } catch (RuntimeException e) {
+      tell("threw " + e);
+    }
+    if (asked == before) {
+      tell("nothing was asked");
+    }
+    sentence = "";
   }
 
   /** The whole row of the OUT. */
@@ -32,7 +61,8 @@ final class Due {
   }
 
   void end() {
-    System.out.println(test + ": " + asked + " answers, " + wrong + " wrong");
+    String of = sentences == 0 ? "" : sentences + " sentences, ";
+    System.out.println(test + ": " + of + asked + " answers, " + wrong + " wrong");
     if (wrong != 0) {
       System.exit(1);
     }
