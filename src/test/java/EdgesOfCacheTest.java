@@ -178,7 +178,12 @@ public final class EdgesOfCacheTest extends Edges {
     cached("bit 0 outside", 2, 22, branch(TREE - 1, 121), END);
     cached("bit 1 outside", 2, 22, branch(121, TREE + 22), END);
     cached("both outside", 1, 22, branch(-1, 4096), END);
-    cached("a row is no branch", 1, 40, b(3, 0), branch(112, 114));
+    // FOURs of another node than a BRANCH lead nowhere, though they could be addresses of nodes.
+    for (int kind : new int[] {4, 8, 9}) {
+      cached("a node " + kind, 1, 23, node(kind, 121, 122), END, END);
+    }
+    cached("a node 5", 1, 27, node(5, 125, 126, 0), END, END);
+    cached("a node 10", 1, 35, node(10, 133, 2, 134, 133), END, END);
   }
 
   private static void eachOnce() {
@@ -221,6 +226,14 @@ public final class EdgesOfCacheTest extends Edges {
     is("a node 4 at the end of MEMORY", x.table(4079), 1);
     put(x, 4080, head(16, 4092), b(4, 0, 0, 0));
     is("a node 4 beyond it", x.table(4080), 0);
+    for (int kind = 0; kind <= 12; kind++) {
+      put(x, 4083, head(13, 4095), b(kind));
+      is("a node " + kind + " in the last byte of MEMORY", x.table(4083), kind == 1 ? 1 : 0);
+    }
+    for (int n = 1; n <= 9; n++) {
+      put(x, 4084 - n, head(12 + n, 4096 - n), b(10), row(n - 1, 0));
+      is("a node 10 in the last " + n + " bytes of MEMORY", x.table(4084 - n), n == 9 ? 1 : 0);
+    }
   }
 
   private static void rowsWithEnd() {
@@ -228,6 +241,11 @@ public final class EdgesOfCacheTest extends Edges {
     wholeOrNot(3, 65, 66, 67, 0);
     wholeOrNot(node(5, 0));
     wholeOrNot(node(5, 65, 0x01000000, -1, 0));
+    // A byte 0 ahead of the row is not its end.
+    GlulxStrings ahead = lying(16, ROOT + 1, b(0, 3, 65, 66, 0));
+    is("a row behind a byte 0", ahead.table(TREE), 0);
+    put(ahead, TREE, four(17));
+    is("a row behind a byte 0, with its end", ahead.table(TREE), 1);
     // FOURs that are not 0 have four bytes 0 among them.
     cached("no FOUR 0", 0, 12 + 9, b(5), four(0x01000000, 1), row(8, 1));
     cached("a FOUR 0 askew", 0, 12 + 13, b(5), four(0x01000000, 0x00000001, 0x01010101), row(8, 1));

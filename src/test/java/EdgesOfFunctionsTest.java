@@ -63,6 +63,7 @@ public final class EdgesOfFunctionsTest extends Edges {
     holds("The FUNCTION at an address is CALLED (FAULT 1, 4 likewise)", EdgesOfFunctionsTest::callFaults);
     holds("with the LINE (4 at most), which is empty then.", EdgesOfFunctionsTest::callWithLine);
     holds("BAD; also a longer LINE.", EdgesOfFunctionsTest::longerLine);
+    holds("BAD; also a longer LINE. NO.", EdgesOfFunctionsTest::callBadNo);
   }
 
   // ---- functions
@@ -125,6 +126,24 @@ public final class EdgesOfFunctionsTest extends Edges {
       is("resume(2)", x.resume(2), HELD);
       is("LOCAL 7", x.job(0, 17), -1);
       x.stop();
+      // What was lost, or is left of more ARGUMENTS, does not come back.
+      line(x, 1, 2, 3, 4);
+      x.call(CODE, 0);
+      x.stop();
+    }
+    put(x, CODE, function(193, 4, order(6, value(OTHER), b(1), value(9), NOWHERE), OVER));
+    put(x, OTHER, function(193, 8, order(1, value(7)), OVER));
+    line(x, 1, 2, 3, 4);
+    x.call(CODE, 1);
+    for (int i = 0; i < 8; i++) {
+      is("by ORDER 6: LOCAL " + i, x.job(1, 10 + i), i == 0 ? 9 : 0);
+    }
+    x.stop();
+    x.system(1, OTHER);
+    line(x, 1, 2, 3, 4);
+    x.call(CODE, 2);
+    for (int i = 0; i < 8; i++) {
+      is("by a filter: LOCAL " + i, x.job(2, 10 + i), i == 0 ? 7 : 0);
     }
   }
 
@@ -564,6 +583,16 @@ public final class EdgesOfFunctionsTest extends Edges {
       is("told(14)", x.told(14), 0);
     }
     GlulxStrings x = toOut();
+    put(x, CODE, function(192, 8, OVER));
+    for (int n : new int[] {4, 1, 0, 3, 2}) {
+      line(x, row(n, 5));
+      is("call with " + n + " then", x.call(CODE, 0), HELD);
+      is("LOCAL 0", x.job(0, 10), n);
+      for (int i = 1; i < 8; i++) {
+        is("LOCAL " + i, x.job(0, 10 + i), i <= n ? 5 : 0);
+      }
+      x.stop();
+    }
     x.sign(5);
     is("call(-1, 0)", x.call(-1, 0), fault(1));
     is("told(14)", x.told(14), 0);
@@ -579,5 +608,27 @@ public final class EdgesOfFunctionsTest extends Edges {
     }
     is("call of nothing with 120", x.call(-1, 9), BAD);
     is("told(4)", x.told(4), 0);
+  }
+
+  private static void callBadNo() {
+    GlulxStrings x = withCode(2, order(1, b(1, 65)), order(0, b(0)));
+    line(x, 21, 22);
+    for (int steps : new int[] {-1, 100001, MIN, MAX}) {
+      is("call(CODE, " + steps + ")", x.call(CODE, steps), BAD);
+      is("told(14)", x.told(14), 2);
+    }
+    is("call(CODE, 1)", x.call(CODE, 1), HELD);
+    line(x, 23);
+    is("call(CODE, 9)", x.call(CODE, 9), NO);
+    is("call(CODE, 0)", x.call(CODE, 0), NO);
+    is("call(-1, 0)", x.call(-1, 0), NO);
+    is("told(14)", x.told(14), 1);
+    is("jobs()", x.jobs(), 1);
+    is("LOCAL 0", x.job(0, 10), 21);
+    is("LOCAL 1", x.job(0, 11), 22);
+    is("job(0, 1)", x.job(0, 1), CODE + 5);
+    is("told(4)", x.told(4), 0);
+    is("resume(9)", x.resume(9), 0);
+    is("call(CODE, 100000)", x.call(CODE, 100000), 1);
   }
 }

@@ -53,6 +53,7 @@ public final class EdgesOfJobsTest extends Edges {
     holds("what was GIVEN and changed stays.", EdgesOfJobsTest::stays);
     holds("the SYSTEM, TREE, LOCALS, bytes are as they were", EdgesOfJobsTest::asTheyWere);
     holds("of several FAULTS of a STEP the one that comes first by this text", EdgesOfJobsTest::firstFault);
+    holds("In a STEP that ends in a FAULT", EdgesOfJobsTest::noSignInFault);
     holds("A STEP that a FAULT ends counts.", EdgesOfJobsTest::faultCounts);
   }
 
@@ -68,7 +69,9 @@ public final class EdgesOfJobsTest extends Edges {
   private static void promises() {
     holds("The SYSTEM, with w: 0. BAD: system is not 0 .. 2.", EdgesOfJobsTest::badSystem);
     holds("A number is printed.", EdgesOfJobsTest::numberIsPrinted);
+    holds("A number is printed. BAD, NO.", EdgesOfJobsTest::numberBadNo);
     holds("What is HELD goes on.", EdgesOfJobsTest::goesOn);
+    holds("What is HELD goes on. BAD, NO.", EdgesOfJobsTest::resumeBadNo);
     holds("All JOBS are gone: how many there were.", EdgesOfJobsTest::stop);
     holds("How many JOBS there are.", EdgesOfJobsTest::howMany);
     holds("2 BIT (0 of others), 3 how many LOCALS (0 of others)", EdgesOfJobsTest::zeroOfOthers);
@@ -87,7 +90,9 @@ public final class EdgesOfJobsTest extends Edges {
     holds("4 FAULTS, 5 the latest one (0)", EdgesOfJobsTest::toldFaults);
     holds("6 the RESULT of the FUNCTION that was over last (by ORDER 0; 0)", EdgesOfJobsTest::toldResult);
     holds("7 the most JOBS at a time", EdgesOfJobsTest::toldMost);
+    holds("8 the SYSTEM, 9 its w, 10 where the TREE lies, 11 the BORDER", EdgesOfJobsTest::toldSettings);
     holds("12 SIGNS in the OUT, 13 bytes on the TAPE, 14 SIGNS of the LINE", EdgesOfJobsTest::toldRows);
+    holds("16 PIECES, 17 TEXTS.", EdgesOfJobsTest::toldPacking);
   }
 
   // ---- jobs
@@ -479,6 +484,30 @@ public final class EdgesOfJobsTest extends Edges {
     is("no filter with 40 JOBS", x.resume(2), fault(4));
   }
 
+  /** A SIGN that can't be read goes neither nowhere, nor to a function, nor to the OUT. */
+  private static void noSignInFault() {
+    int[][] strings = {b(224), b(226, 0, 0, 0, 0, 0), b(225)};
+    for (int system = 0; system <= 2; system++) {
+      for (int[] string : strings) {
+        GlulxStrings x = withTree(branch(4095, 4095));
+        put(x, 4096 - string.length, string);
+        put(x, OTHER, function(193, 0, OVER));
+        x.system(system, OTHER);
+        is("print of " + string[0], x.print(4096 - string.length, 2), fault(1));
+        put(x, STRING, b(225, 0));
+        put(x, 4095, b(2));
+        is("a node 2 at 4095", x.print(STRING, 2), fault(1));
+        put(x, 4095, b(4));
+        is("a node 4 at 4095", x.print(STRING, 2), fault(1));
+        for (int what = 1; what <= 3; what++) {
+          is("told(" + what + ")", x.told(what), 0);
+        }
+        is("told(12)", x.told(12), 0);
+        is("told(7)", x.told(7), 1);
+      }
+    }
+  }
+
   private static void faultCounts() {
     GlulxStrings x = withCode(0, order(1, b(1, 65)), b(18));
     is("call", x.call(CODE, 9), fault(6));
@@ -638,6 +667,41 @@ public final class EdgesOfJobsTest extends Edges {
     is("at(1)", x.at(1), 45);
     is("at(2)", x.at(2), 50);
     is("at(11)", x.at(11), 56);
+  }
+
+  private static void numberBadNo() {
+    GlulxStrings x = toOut();
+    for (int steps : new int[] {-1, 100001, MIN, MAX}) {
+      is("number(5, " + steps + ")", x.number(5, steps), BAD);
+    }
+    is("jobs()", x.jobs(), 0);
+    is("number(-12, 1)", x.number(-12, 1), HELD);
+    is("number(5, 9)", x.number(5, 9), NO);
+    is("number(5, 0)", x.number(5, 0), NO);
+    is("jobs()", x.jobs(), 1);
+    is("job(0, 1)", x.job(0, 1), -12);
+    is("job(0, 2)", x.job(0, 2), 1);
+    is("resume(9)", x.resume(9), 2);
+    is("number(5, 100000)", x.number(5, 100000), 1);
+  }
+
+  private static void resumeBadNo() {
+    GlulxStrings x = toOut();
+    for (int steps : new int[] {0, 1, 100000}) {
+      is("resume(" + steps + ") of a new object", x.resume(steps), NO);
+    }
+    x.number(12, 1);
+    for (int steps : new int[] {-1, 100001, MIN, MAX}) {
+      is("resume(" + steps + ")", x.resume(steps), BAD);
+    }
+    is("job(0, 2)", x.job(0, 2), 1);
+    is("resume(100000)", x.resume(100000), 1);
+    is("resume(1) when all is over", x.resume(1), NO);
+    x.print(-1, 1);
+    is("resume(1) behind a FAULT", x.resume(1), NO);
+    x.number(12, 1);
+    x.stop();
+    is("resume(1) behind stop()", x.resume(1), NO);
   }
 
   private static void goesOn() {
@@ -899,6 +963,47 @@ public final class EdgesOfJobsTest extends Edges {
     x = deep(40, order(3, b(0)));
     x.resume(1);
     is("told(7) behind FAULT 8", x.told(7), 40);
+  }
+
+  private static void toldSettings() {
+    GlulxStrings x = withCode(0, order(4, b(1, 1), value(MIN)), order(5, value(MAX)), order(10, b(0), by(-4)));
+    x.border(4096);
+    is("told(8)", x.told(8), 2);
+    is("told(9)", x.told(9), 0);
+    is("told(10)", x.told(10), 0);
+    is("told(11)", x.told(11), 4096);
+    is("call(CODE, 3)", x.call(CODE, 3), HELD);
+    is("told(8) with JOBS", x.told(8), 1);
+    is("told(9) with JOBS", x.told(9), MIN);
+    is("told(10) with JOBS", x.told(10), MAX);
+    x.border(0);
+    is("told(11) with JOBS", x.told(11), 0);
+    x.stop();
+    x.table(-7);
+    x.system(0, MAX);
+    is("told(8)", x.told(8), 0);
+    is("told(9)", x.told(9), MAX);
+    is("told(10)", x.told(10), -7);
+  }
+
+  private static void toldPacking() {
+    GlulxStrings x = new GlulxStrings();
+    for (int i = 1; i <= 60; i++) {
+      piece(x, 2, i);
+      is("told(16)", x.told(16), i);
+    }
+    for (int i = 1; i <= 20; i++) {
+      x.text();
+      is("told(17)", x.told(17), i);
+    }
+    piece(x, 2, 1);
+    x.text();
+    x.tree(0);
+    is("told(16) behind FULL", x.told(16), 60);
+    is("told(17) behind FULL", x.told(17), 20);
+    x.forget();
+    is("told(16) behind forget()", x.told(16), 0);
+    is("told(17) behind forget()", x.told(17), 0);
   }
 
   private static void toldRows() {

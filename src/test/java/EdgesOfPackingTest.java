@@ -32,7 +32,9 @@ public final class EdgesOfPackingTest extends Edges {
   private static void bestTree() {
     holds("LEAVES are END, with as many uses as there are TEXTS", EdgesOfPackingTest::endAlone);
     holds("and the PIECES that are used, with their uses", EdgesOfPackingTest::usedPieces);
+    holds("in this order (END, then by numbers).", EdgesOfPackingTest::byNumbers);
     holds("As long as there are two trees or more", EdgesOfPackingTest::twoTrees);
+    holds("the two with the fewest uses", EdgesOfPackingTest::fewestUses);
     holds("of like ones those that stood first in the order", EdgesOfPackingTest::likeOnes);
     holds("what is made stands behind all that is there", EdgesOfPackingTest::madeStandsBehind);
     holds("are joined: the lesser one is for a bit 0.", EdgesOfPackingTest::lesserForZero);
@@ -357,6 +359,28 @@ public final class EdgesOfPackingTest extends Edges {
     is("how many have five bits", fives, 3);
   }
 
+  /** The TEXT uses them the other way round; all have one use. */
+  private static void byNumbers() {
+    GlulxStrings x = withSigns(3);
+    text(x, 3, 2, 1);
+    is("tree(100)", x.tree(100), 8);
+    // END 00, PIECES 0, 1, 2: 01, 10, 11.
+    bytes(x, "by numbers", 112, branch(121, 133), branch(130, 131), END, b(2, 1), branch(142, 144), b(2, 2), b(2, 3),
+        b(225, 0b00100111));
+  }
+
+  /** END 1, a 3, b 2, c 1: END and c (2), b and these (4), a and these. */
+  private static void fewestUses() {
+    GlulxStrings x = withSigns(3);
+    text(x, 1, 1, 1, 2, 2, 3);
+    is("tree(100)", x.tree(100), 3 + 2 * 2 + 3 + 3);
+    is("bits(0)", x.bits(0), 1);
+    is("bits(1)", x.bits(1), 2);
+    is("bits(2)", x.bits(2), 3);
+    is("bits(NONE)", x.bits(NONE), 3);
+    bytes(x, "the tree", 112, branch(121, 123), b(2, 1), branch(132, 134), b(2, 2), branch(143, 144), END, b(2, 3));
+  }
+
   private static void likeOnes() {
     // END 1, a 1, b 1: END and a are joined, as they stood first.
     GlulxStrings x = withSigns(2);
@@ -446,12 +470,23 @@ public final class EdgesOfPackingTest extends Edges {
     text(x, MIN, 1);
     x.tree(100);
     bytes(x, "a node 5", 122, b(5), four(MIN, 1, 0), b(225, 1, 255));
-    x = new GlulxStrings();
+    bytesOf(b(3, 254, 1, 0), 3, 254, 1);
+    bytesOf(join(b(3), row(20, 77), b(0)), 3, row(20, 77));
+    bytesOf(b(2, 254), 2, 254);
+    bytesOf(node(4, 0x81929394), 4, 0x81929394);
+    bytesOf(node(5, 0x81929394, 0x01020304, 0), 5, 0x81929394, 0x01020304);
+    bytesOf(node(8, 0x81929394), 8, 0x81929394);
+    bytesOf(node(9, 0x01020304), 9, 0x01020304);
+  }
+
+  /** The node of a PIECE that is used once, over bytes that are not 0. */
+  private static void bytesOf(int[] node, int kind, int... signs) {
+    GlulxStrings x = new GlulxStrings();
     put(x, 100, row(60, 255));
-    piece(x, 3, 255, 1);
-    text(x, 255, 1);
-    x.tree(100);
-    bytes(x, "a node 3", 122, b(3, 255, 1, 0), b(225, 1, 255));
+    piece(x, kind, signs);
+    text(x, kind >= 8 ? b(-1000) : signs);
+    is("tree(100)", x.tree(100), 2);
+    bytes(x, "a node " + kind, 100, four(22 + node.length, 3, 112), branch(121, 122), END, node, b(225, 1, 255));
   }
 
   private static void textsByNumbers() {
@@ -467,6 +502,45 @@ public final class EdgesOfPackingTest extends Edges {
       is("its byte", x.byteAt(place), 225);
       place += 1 + (k + 8) / 8;
     }
+    x = new GlulxStrings();
+    put(x, 100, row(80, 255));
+    fourTexts(x);
+    // Likewise, when a tree of sixty PIECES was laid ahead of it.
+    x = withSigns(60);
+    int[] all = new int[60];
+    for (int i = 0; i < 60; i++) {
+      all[i] = i + 1;
+    }
+    text(x, all);
+    is("tree of sixty", x.tree(1000), 61 * 6 - 3);
+    x.forget();
+    put(x, 100, row(80, 255));
+    fourTexts(x);
+  }
+
+  /**
+   * END 4, a 1, b 1, c 3: a and b are joined (2), these and c (5), END and these: END 0, a 100, b 101,
+   * c 11.
+   */
+  private static void fourTexts(GlulxStrings x) {
+    for (int c = 97; c <= 99; c++) {
+      piece(x, 2, c);
+    }
+    text(x, 97, 98, 99);
+    text(x);
+    text(x, 99, 99);
+    text(x);
+    is("tree(100)", x.tree(100), 9 + 1 + 5 + 1);
+    bytes(x, "four TEXTS", 100, four(46, 7, 112), branch(121, 122), END, branch(131, 144), branch(140, 142),
+        b(2, 97), b(2, 98), b(2, 99), b(225, 0b11101001, 0), b(225, 0), b(225, 0b01111), b(225, 0), b(255));
+    // END 3 and a 1: a 0, END 1.
+    x.forget();
+    piece(x, 2, 97);
+    text(x, 97);
+    text(x);
+    text(x);
+    is("tree(100)", x.tree(100), 2 + 1 + 1);
+    bytes(x, "three TEXTS", 112, branch(121, 123), b(2, 97), END, b(225, 0b10), b(225, 1), b(225, 1));
   }
 
   /** So many times a bit 1, then a bit 0; the bytes were 255. */
@@ -702,6 +776,19 @@ public final class EdgesOfPackingTest extends Edges {
     is("tree(4070)", x.tree(4070), 2);
     is("tree(4071)", x.tree(4071), FULL);
     is("laid(0, 0) stays", x.laid(0, 0), 4094);
+    // So many bits, with not a byte to spare, and with one too few.
+    for (int bits : new int[] {2, 7, 8, 9, 15, 16, 17, 120, 121}) {
+      x = withSigns(1);
+      text(x, row(bits - 1, 1));
+      int room = 24 + 1 + (bits + 7) / 8;
+      is("tree of " + bits + " with a byte too few", x.tree(4097 - room), FULL);
+      is("tree of " + bits, x.tree(4096 - room), bits);
+    }
+    x = withSigns(1);
+    text(x, 1);
+    text(x);
+    is("tree of two and one with a byte too few", x.tree(4097 - 28), FULL);
+    is("tree of two and one", x.tree(4096 - 28), 3);
     // A longer one: ten PIECES of twenty FOURs, all in two TEXTS.
     x = new GlulxStrings();
     for (int p = 1; p <= 10; p++) {

@@ -38,6 +38,7 @@ public final class EdgesOfStringsTest extends Edges {
     holds("5 FOURs, up to a FOUR 0: SIGNS.", EdgesOfStringsTest::foursNode);
     holds("8 FOUR, the address of a THING.", EdgesOfStringsTest::thingNode);
     holds("9 FOUR, where the address of a THING is (FOUR).", EdgesOfStringsTest::thingAtNode);
+    holds("10, 11: likewise, and behind it FOUR how many ARGUMENTS", EdgesOfStringsTest::othersHaveNoArguments);
     holds("10, 11: likewise", EdgesOfStringsTest::callNodesLikewise);
     holds("FOUR how many ARGUMENTS (0 .. 4; else FAULT 5)", EdgesOfStringsTest::numberOfArguments);
     holds("these (FOURs).", EdgesOfStringsTest::argumentsOutside);
@@ -54,6 +55,7 @@ public final class EdgesOfStringsTest extends Edges {
     holds("(its kind, and that it is one, is looked at first: FAULT 1, 4, without a STEP, also with 0 steps)",
         EdgesOfStringsTest::lookedAtFirst);
     holds("also with 0 steps", EdgesOfStringsTest::lookedAtAlone);
+    holds("BAD, NO.", EdgesOfStringsTest::printBadNo);
   }
 
   // ---- strings
@@ -287,6 +289,7 @@ public final class EdgesOfStringsTest extends Edges {
       put(x, STRING, b(225, 1));
       put(x, 4096 - node.length + less, java.util.Arrays.copyOf(node, node.length - less));
       is("a node " + node[0] + " less " + less, x.print(STRING, 2), less == 0 ? HELD : fault(1));
+      is("told(12)", x.told(12), less == 0 ? 1 : 0);
     }
   }
 
@@ -357,12 +360,7 @@ public final class EdgesOfStringsTest extends Edges {
     x = withLeaf(node(8, 0));
     put(x, 0, b(224, 65, 0));
     is("a THING at 0", x.print(STRING, 9), 1);
-    for (int less = 1; less <= 4; less++) {
-      x = withTree(branch(121, 4091 + less), END);
-      put(x, STRING, b(225, 1));
-      put(x, 4091 + less, b(8));
-      is("a node 8 less " + less, x.print(STRING, 9), fault(1));
-    }
+    thingAtTheEnd(8);
   }
 
   private static void thingAtNode() {
@@ -379,11 +377,36 @@ public final class EdgesOfStringsTest extends Edges {
         is("a THING at " + thing, x.print(STRING, 9), fault(1));
       }
     }
-    for (int less = 1; less <= 4; less++) {
+    thingAtTheEnd(9);
+  }
+
+  /** The address of a string, and where it is, is 771, so that some bytes less would be another one. */
+  private static void thingAtTheEnd(int kind) {
+    for (int less = 0; less <= 4; less++) {
       GlulxStrings x = withTree(branch(121, 4091 + less), END);
       put(x, STRING, b(225, 1));
-      put(x, 4091 + less, b(9));
-      is("a node 9 less " + less, x.print(STRING, 9), fault(1));
+      put(x, 771, kind == 8 ? b(224, 65, 0) : four(600));
+      put(x, 600, b(224, 65, 0));
+      put(x, 4091 + less, java.util.Arrays.copyOf(node(kind, 771), 5 - less));
+      is("a node " + kind + " less " + less, x.print(STRING, 9), less == 0 ? 1 : fault(1));
+    }
+  }
+
+  /** Behind nodes 8, 9 there lies what would be a wrong number of ARGUMENTS, and what would be a right one. */
+  private static void othersHaveNoArguments() {
+    for (int n : new int[] {5, -1, 2}) {
+      for (int kind = 8; kind <= 9; kind++) {
+        GlulxStrings x = withLeaf(node(kind, kind == 8 ? CODE : 600, n, 21, 22));
+        put(x, 600, four(CODE));
+        put(x, CODE, function(192, 4, OVER));
+        // ARGUMENTS of an earlier call.
+        line(x, 31, 32, 33);
+        x.call(CODE, 9);
+        is("a node " + kind, x.print(STRING, 2), HELD);
+        for (int i = 0; i < 4; i++) {
+          is("LOCAL " + i, x.job(1, 10 + i), 0);
+        }
+      }
     }
   }
 
@@ -516,5 +539,24 @@ public final class EdgesOfStringsTest extends Edges {
     is("print(0, 0) of a FUNCTION", x.print(0, 0), fault(4));
     is("told(0)", x.told(0), 0);
     is("told(4)", x.told(4), 4);
+  }
+
+  private static void printBadNo() {
+    GlulxStrings x = toOut();
+    put(x, STRING, b(224, 65, 66, 0));
+    for (int steps : new int[] {-1, 100001, MIN, MAX}) {
+      is("print(STRING, " + steps + ")", x.print(STRING, steps), BAD);
+      is("print(-1, " + steps + ")", x.print(-1, steps), BAD);
+    }
+    is("jobs()", x.jobs(), 0);
+    is("print(STRING, 1)", x.print(STRING, 1), HELD);
+    is("print(STRING, 9)", x.print(STRING, 9), NO);
+    is("print(STRING, 0)", x.print(STRING, 0), NO);
+    is("print(-1, 0)", x.print(-1, 0), NO);
+    is("job(0, 1)", x.job(0, 1), STRING + 2);
+    is("jobs()", x.jobs(), 1);
+    is("told(4)", x.told(4), 0);
+    is("resume(9)", x.resume(9), 1);
+    is("print(STRING, 100000)", x.print(STRING, 100000), 2);
   }
 }
