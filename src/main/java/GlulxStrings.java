@@ -985,13 +985,12 @@ public final class GlulxStrings {
         case 0: return 0;
         case 1: return (byte) nextByte();
         case 2: return nextFour();
-        case 3: return nextLocal(job);
+        case 3: return localOf(job, nextByte());
         default: fail(FAULT_ORDER); return 0;
       }
     }
 
-    private int nextLocal(Job job) {
-      int i = nextByte();
+    private int localOf(Job job, int i) {
       if (!job.hasLocal(i)) {
         fail(FAULT_ORDER);
         return 0;
